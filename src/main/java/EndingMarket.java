@@ -219,9 +219,6 @@ public final class EndingMarket {
     }
 
     public int buy(int m, int e) {
-        if (!facts.isMan(m) || !facts.isEnding(e)) {
-            return NONE;
-        }
         int why = affairs.whyNotBuy(m, e);
         if (why == 0) {
             past.keep(affairs);
@@ -231,9 +228,6 @@ public final class EndingMarket {
     }
 
     public int put(int m, int e, int t) {
-        if (!facts.isMan(m) || !facts.isEnding(e) || !facts.isThing(t)) {
-            return NONE;
-        }
         int why = affairs.whyNotPut(m, e, t);
         if (why == 0) {
             past.keep(affairs);
@@ -861,9 +855,10 @@ public final class EndingMarket {
             if (!takeNewName(tape, MAN, men)) {
                 return false;
             }
-            coin[men] = tape.takeNumber(0, 999);
+            int m = men;
             men++;
-            return tape.faultKind == 0;
+            coin[m] = tape.takeNumber(0, 999);
+            return coin[m] != NONE;
         }
 
         private boolean readThing(Tape tape) {
@@ -1227,7 +1222,11 @@ public final class EndingMarket {
             return best;
         }
 
+        /** NONE: there are no such ones. */
         int whyNotBuy(int m, int e) {
+            if (!facts.isMan(m) || !facts.isEnding(e)) {
+                return NONE;
+            }
             if (isPut(e)) {
                 return 1;
             }
@@ -1249,7 +1248,11 @@ public final class EndingMarket {
             sold[e]++;
         }
 
+        /** NONE: there are no such ones. */
         int whyNotPut(int m, int e, int t) {
+            if (!facts.isMan(m) || !facts.isEnding(e) || !facts.isThing(t)) {
+                return NONE;
+            }
             if (isPut(e)) {
                 return 1;
             }
@@ -1392,7 +1395,7 @@ public final class EndingMarket {
             System.arraycopy(from.number, 0, number, 0, MOST_PARTS);
         }
 
-        boolean readCondition(Tape tape, Facts facts, int depth) {
+        private boolean readCondition(Tape tape, Facts facts, int depth) {
             if (!readOne(tape, facts, depth)) {
                 return false;
             }
@@ -1688,6 +1691,9 @@ public final class EndingMarket {
             if (nothingOpen) {
                 return 0;
             }
+            if (!closesAllLeft(fitting)) {
+                return NONE;
+            }
             int best = NONE;
             int bestCoin = 0;
             int set = 0;
@@ -1796,8 +1802,8 @@ public final class EndingMarket {
                     return;
                 }
                 rest &= ~(1 << first);
-                row[rowLength] = first;
-                rowLength++;
+                row[i] = first;
+                rowLength = i + 1;
                 take(first);
             }
         }
