@@ -674,13 +674,14 @@ public final class EndingMarket {
 
     /** A market as its text told it: what no deed changes. */
     private static final class Facts {
+        private static final int DUSK_WITHOUT_WORD = 1;
+
         int kinds = 0;
         int men = 0;
         int things = 0;
         int endings = 0;
         int lines = 0;
-        int dusk = 1;
-        private boolean duskTold = false;
+        int dusk = DUSK_WITHOUT_WORD;
         private int names = 0;
         private final long[] nameLetters = new long[MOST_NAMES];
         private final int[] nameSort = new int[MOST_NAMES];
@@ -701,7 +702,6 @@ public final class EndingMarket {
             endings = from.endings;
             lines = from.lines;
             dusk = from.dusk;
-            duskTold = from.duskTold;
             names = from.names;
             System.arraycopy(from.nameLetters, 0, nameLetters, 0, MOST_NAMES);
             System.arraycopy(from.nameSort, 0, nameSort, 0, MOST_NAMES);
@@ -721,8 +721,7 @@ public final class EndingMarket {
             things = 0;
             endings = 0;
             lines = 0;
-            dusk = 1;
-            duskTold = false;
+            dusk = NONE;
             names = 0;
             for (int i = 0; i < MOST_THINGS * MOST_KINDS; i++) {
                 thingOpen[i] = 0;
@@ -812,6 +811,9 @@ public final class EndingMarket {
                     return false;
                 }
                 lines++;
+            }
+            if (dusk == NONE) {
+                dusk = DUSK_WITHOUT_WORD;
             }
             return tape.takeEnd();
         }
@@ -927,10 +929,9 @@ public final class EndingMarket {
         }
 
         private boolean readDusk(Tape tape) {
-            if (duskTold) {
+            if (dusk != NONE) {
                 return tape.fail(WRONG_NAME);
             }
-            duskTold = true;
             tape.step();
             dusk = tape.takeNumber(0, 9);
             return dusk != NONE;
@@ -1020,9 +1021,6 @@ public final class EndingMarket {
                 putDay[e] = NONE;
                 wentOn[e] = 0;
                 sold[e] = 0;
-            }
-            for (int i = 0; i < MOST_ENDINGS * MOST_KINDS; i++) {
-                shut[i] = 0;
             }
         }
 
@@ -1808,12 +1806,8 @@ public final class EndingMarket {
             }
         }
 
+        /** Only for endings that may follow all together: so each of them fits now. */
         private boolean mayBeFirst(int e, int others) {
-            for (int k = 0; k < MOST_KINDS; k++) {
-                if (facts.closed(e, k) > 0 && left[k] <= 0) {
-                    return false;
-                }
-            }
             take(e);
             boolean may = mayFollow(others);
             giveBack(e);

@@ -5,6 +5,7 @@ public final class BargainTest {
         liking();
         twoRings();
         threeInARing();
+        likeOnes();
         comingWithTheFirst();
         Check.finish();
     }
@@ -91,6 +92,16 @@ public final class BargainTest {
         Check.due("trade", x.trade(), 3);
         Check.due("m keeps c", x.ending(2, 0), 0);
         Check.due("p has b", x.ending(1, 0), 3);
+    }
+
+    private static void likeOnes() {
+        // m likes b and c alike: the lesser number, which is of n here and of o there.
+        EndingMarket x = Check.of("kind k;kind l;man m 9;man n 9;man o 9;thing s m k 1;thing t n l 1;thing u o l 1;"
+                + "ending a m 1 l 1;ending b n 1 k 1;ending c o 1 k 1;");
+        gets(x, 1, 0, 2);
+        Check.market(x, "kind k;kind l;man m 9;man n 9;man o 9;thing s m k 1;thing t n l 1;thing u o l 1;"
+                + "ending a m 1 l 1;ending b o 1 k 1;ending c n 1 k 1;");
+        gets(x, 1, 2, 0);
     }
 
     private static void comingWithTheFirst() {

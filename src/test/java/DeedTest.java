@@ -113,6 +113,9 @@ public final class DeedTest {
         Check.due("days left", x.days(60), 40);
         Check.due("none left", x.days(1), 0);
         Check.due("day", x.now(0), 400);
+        Check.due("days that did not go by are not undone", x.undo(), 6);
+        Check.due("day", x.now(0), 360);
+        Check.due("days left", x.days(40), 40);
         Check.due("buy", x.buy(0, 0), 0);
         Check.due("put", x.put(0, 0, 0), 0);
         Check.due("put on", x.ending(0, 3), 400);

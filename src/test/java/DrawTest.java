@@ -98,17 +98,36 @@ public final class DrawTest {
         for (int t = 0; t < 3; t++) {
             int ended = 0;
             for (int i = 0; i < 30; i++) {
-                y.image(0);
-                live(y, 20, 500 + i);
-                ended += y.now(1) >> t & 1;
-                y.restore(0);
+                EndingMarket z = Check.of(TEXT);
+                live(z, 20, 500 + i);
+                ended += z.now(1) >> t & 1;
             }
             Check.due("odds " + t, y.odds(t, 30, 500), ended);
         }
         Check.due("nothing was done", y.now(0) + y.now(2), 0);
+        // One man and one ending: whether the thing is ended may hang on the last of the days.
+        String one = "kind k;man m 1;thing t m k 1;ending e m 1 k 1;";
+        for (int seed = 0; seed < 150; seed++) {
+            EndingMarket z = Check.of(one);
+            int odds = z.odds(0, 1, seed);
+            live(z, 20, seed);
+            Check.due("odds by seed " + seed, odds, z.now(1));
+        }
+        for (int n = 1; n <= 30; n++) {
+            oddsOf(n);
+        }
         EndingMarket z = Check.of(TEXT);
         int ended = z.odds(0, 1, Integer.MAX_VALUE) + z.odds(0, 1, Integer.MIN_VALUE);
         Check.due("the seeds go round", z.odds(0, 2, Integer.MAX_VALUE), ended);
+    }
+
+    private static void oddsOf(int n) {
+        EndingMarket y = Check.of(TEXT);
+        int all = 0;
+        for (int seed = 0; seed < 3 * n; seed++) {
+            all += y.odds(2, 1, seed);
+        }
+        Check.due("odds of " + n, y.odds(2, n, 0) + y.odds(2, n, n) + y.odds(2, n, 2 * n), all);
     }
 
     private static void lastDays() {

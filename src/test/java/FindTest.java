@@ -82,6 +82,11 @@ public final class FindTest {
                 + "ending c m 5 l 1 j 9;");
         Check.due("ends", x.ends(0), 15);
         row(x, 2, 1, 0);
+        // Behind a, b would leave nothing of k for c.
+        Check.market(x, "kind k;kind l;kind j;man m 9;thing t m k 4 l 1 j 1;ending a m 1 k 1 j 1;ending b m 1 k 3;"
+                + "ending c m 1 k 1 l 1;");
+        Check.due("ends", x.ends(0), 3);
+        row(x, 0, 2, 1);
     }
 
     private static void has(EndingMarket x, int... due) {
@@ -144,6 +149,16 @@ public final class FindTest {
         Check.due("can't be", x.covers(2), -1);
         Check.due("put ones do not count", x.covers(5), 1);
         Check.due("tray", x.tray(), 4);
+        Check.market(x, "kind a;kind b;man m 9;thing s m a 1 b 1;thing t m b 1;thing u m a 1;ending e m 1 a 1;"
+                + "ending f m 1 b 1;ending g m 1 b 1;");
+        Check.due("one of two", x.covers(3), 1);
+        Check.due("the fewest, though more as bits", x.tray(), 2);
+        Check.due("two", x.covers(7), 2);
+        Check.due("tray", x.tray(), 3);
+        Check.market(x, "kind a;kind b;kind c;man m 9;thing s m a 1 c 1;thing t m b 1 c 1;ending e m 1 a 1;"
+                + "ending f m 1 b 1;ending g m 1 c 1;");
+        Check.due("the fewest", x.covers(3), 1);
+        Check.due("though more as bits", x.tray(), 4);
     }
 
     private static void lastPages() {
@@ -192,6 +207,21 @@ public final class FindTest {
         Check.due("stays", x.ask(), 1);
         x.put(0, 0, 1);
         Check.due("stays", x.ask(), 1);
+        // Two amounts of each, and 0 is no amount more: the first.
+        Check.market(x, "kind j;kind k;man m 9;thing s m k 1;thing t m j 1 k 2;ending e m 1 k 9;ending f m 1 j 9;");
+        Check.due("was", Check.was(x, "\0\1"), 1);
+        Check.market(x, "kind j;kind k;kind l;man m 9;thing s m j 1 k 3 l 1;thing t m j 2 k 3 l 3;thing u m j 2 k 3 l 5;"
+                + "ending e m 1 j 9 l 9;");
+        Check.due("was", Check.was(x, "\0\3\0\0"), 7);
+        Check.due("three amounts", x.ask(), 2);
+        Check.market(x, "kind j;kind k;man m 9;thing s m k 2;thing t m k 3;thing u m j 1 k 1;ending e m 1 k 9;"
+                + "ending f m 1 j 1;");
+        Check.due("was", Check.was(x, "\0\0\0"), 3);
+        Check.due("the things alone that come so", x.ask(), 1);
+        Check.market(x, "kind i;kind j;kind k;man m 9;thing r m;thing s m i 1 k 2;thing t m i 1 j 1 k 1;thing u m i 1 k 1;"
+                + "ending e m 1 i 1 k 9;");
+        Check.due("was", Check.was(x, "\0\0\0\0"), 10);
+        Check.due("unlike are k alone", x.ask(), 2);
     }
 
     private static void cheapest() {

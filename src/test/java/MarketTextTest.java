@@ -96,6 +96,9 @@ public final class MarketTextTest {
         Check.fault(MEN + "ending m m 1;", 15, 3);
         Check.fault("thing t m;", 8, 3);
         Check.fault("thing t t;", 8, 3);
+        Check.fault("ending e m 1;", 9, 3);
+        Check.fault("ending e e 1;", 9, 3);
+        Check.fault("kind k;ending e k 1;", 16, 3);
         Check.fault("kind m;thing t m;", 15, 3);
         Check.fault(MEN + "thing t m k 1;", 18, 3);
         Check.fault(MEN + "thing t m m 1;", 18, 3);
@@ -180,6 +183,35 @@ public final class MarketTextTest {
         Check.due("ask", x.ask(), 0);
         Check.due("rounds", x.rounds(), 1);
         Check.due("told", x.told(2), 4);
+        nothingOfAnotherMarket();
+    }
+
+    private static void nothingOfAnotherMarket() {
+        EndingMarket x = Check.of("kind k;kind l;man m 9;man n 9;thing t m k 5 l 5;thing u m k 1;ending e n 1 k 5 l 2;"
+                + "ending f m 1 k 1 l 1;false e 1;false f 2;dusk 7;");
+        x.buy(0, 0);
+        x.put(0, 0, 0);
+        x.put(0, 1, 1);
+        x.days(3);
+        Check.due("went on", x.now(5), 1);
+        // The same names, without amounts, without 'false' and 'dusk'.
+        String bare = "kind k;kind l;man m 9;thing t m;thing u m;ending e m 5;ending f m 6;";
+        Check.due("market", Check.market(x, bare), 7);
+        Check.due("dusk", x.count(4), 1);
+        Check.due("open", x.now(4), 0);
+        Check.due("closes", x.ending(0, 6) + x.ending(1, 6), 0);
+        Check.due("went on", x.now(5) + x.ending(0, 4), 0);
+        Check.due("bought", x.ending(0, 5) + x.man(0, 3), 0);
+        Check.due("put", x.ending(0, 2) + x.ending(0, 3), -2);
+        Check.due("has", x.man(0, 2), 3);
+        x.days(2);
+        Check.due("cheaper by 1", x.ending(0, 1) * 10 + x.ending(1, 1), 34);
+        Check.due("market", Check.market(x, "kind k;man m 9;thing t m k 2;ending e m 5 k 2;ending f m 1 k 1;"), 5);
+        x.put(0, 0, 0);
+        Check.due("it is not false now", x.dark(), 0);
+        x.days(9);
+        Check.due("it stays", x.open(0, 0), 0);
+        Check.due("a name of the market that was", Check.sentence(x, "has l"), -5);
     }
 
     private static void faultIsTheLatest() {

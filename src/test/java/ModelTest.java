@@ -25,7 +25,7 @@ public final class ModelTest {
     }
 
     public static void main(String[] args) {
-        int runs = args.length > 0 ? Integer.parseInt(args[0]) : 400;
+        int runs = args.length > 0 ? Integer.parseInt(args[0]) : 1200;
         for (int run = 0; run < runs; run++) {
             new ModelTest(run).go();
         }
@@ -33,6 +33,7 @@ public final class ModelTest {
     }
 
     private void due(String call, long got, long want) {
+        calls++;
         Check.due("run " + run + " call " + calls + ": " + call, got, want);
     }
 
@@ -51,8 +52,8 @@ public final class ModelTest {
 
     private void go() {
         readMarket(marketText());
-        int many = 60 + up(200);
-        for (calls = 0; calls < many; calls++) {
+        // An object is used for 512 calls at most, and one text takes up to 50 of them.
+        while (calls < 450) {
             call();
         }
     }
@@ -358,8 +359,7 @@ public final class ModelTest {
             tapeIs(s);
             due("ledger " + lives + ": " + s, x.ledger(lives), y.ledger(lives));
             due("fault", x.fault(), y.fault());
-            x.end(0);
-            y.end(0);
+            due("end", x.end(0) ? 1 : 0, y.end(0) ? 1 : 0);
         } else if (what < 16) {
             String s = ofMost(sentenceText(chance(20) ? 0 : 5), 200);
             tapeIs(s);

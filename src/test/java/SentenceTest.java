@@ -156,6 +156,15 @@ public final class SentenceTest {
         Check.sentenceFault(x, "of" + Check.times(197, " ") + "eve", 199, 3);
         Check.sentenceFault(x, "of" + Check.times(198, " ") + "eve", 200, 1);
         Check.sentenceFault(x, "of of" + Check.times(198, " ") + "eve", 3, 1);
+        // What was cut off the tape is no part of its last token.
+        Check.feed(x, "number < 12");
+        x.end(10);
+        Check.due("cut", x.sentence(), 1);
+        due(x, "number < 1", 0);
+        Check.feed(x, "of annx");
+        x.end(6);
+        Check.due("cut", x.sentence(), 1);
+        due(x, "of ann", 0, 3);
     }
 
     private static void aFaultChangesNothing() {
