@@ -102,6 +102,17 @@ public final class BargainTest {
         Check.market(x, "kind k;kind l;man m 9;man n 9;man o 9;thing s m k 1;thing t n l 1;thing u o l 1;"
                 + "ending a m 1 l 1;ending b o 1 k 1;ending c n 1 k 1;");
         gets(x, 1, 2, 0);
+        // Nobody likes any: all point at the first that is left, so each goes alone.
+        Check.market(x, "man m 1;man n 1;man o 1;man p 1;man q 1;man r 1;ending a r 1;ending b q 1;ending c p 1;"
+                + "ending d o 1;ending e n 1;ending f m 1;");
+        gets(x, 5, 4, 3, 2, 1, 0);
+        // And all six in one ring: each wants what the next one has.
+        Check.market(x, "kind a;kind b;kind c;kind d;kind e;kind f;man m 1;man n 1;man o 1;man p 1;man q 1;man r 1;"
+                + "thing s m a 1;thing t n b 1;thing u o c 1;thing v p d 1;thing w q e 1;thing x r f 1;"
+                + "ending y n 1 a 1;ending z o 1 b 1;ending aa p 1 c 1;ending bb q 1 d 1;ending cc r 1 e 1;"
+                + "ending dd m 1 f 1;");
+        gets(x, 0, 1, 2, 3, 4, 5);
+        Check.due("trade", x.trade(), 6);
     }
 
     private static void comingWithTheFirst() {

@@ -105,8 +105,8 @@ public final class DrawTest {
             Check.due("odds " + t, y.odds(t, 30, 500), ended);
         }
         Check.due("nothing was done", y.now(0) + y.now(2), 0);
-        // One man and one ending: whether the thing is ended may hang on the last of the days.
-        String one = "kind k;man m 1;thing t m k 1;ending e m 1 k 1;";
+        // One man, one ending of five that fits: whether the thing is ended may hang on the last of the days.
+        String one = "kind k;man m 1;thing t m k 1;ending a m 1;ending b m 1;ending c m 1;ending d m 1;ending e m 1 k 1;";
         for (int seed = 0; seed < 150; seed++) {
             EndingMarket z = Check.of(one);
             int odds = z.odds(0, 1, seed);

@@ -207,9 +207,9 @@ public final class FindTest {
         Check.due("stays", x.ask(), 1);
         x.put(0, 0, 1);
         Check.due("stays", x.ask(), 1);
-        // Two amounts of each, and 0 is no amount more: the first.
         Check.market(x, "kind j;kind k;man m 9;thing s m k 1;thing t m j 1 k 2;ending e m 1 k 9;ending f m 1 j 9;");
         Check.due("was", Check.was(x, "\0\1"), 1);
+        Check.due("nothing is an amount, too", x.ask(), 0);
         Check.market(x, "kind j;kind k;kind l;man m 9;thing s m j 1 k 3 l 1;thing t m j 2 k 3 l 3;thing u m j 2 k 3 l 5;"
                 + "ending e m 1 j 9 l 9;");
         Check.due("was", Check.was(x, "\0\3\0\0"), 7);

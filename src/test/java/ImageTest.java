@@ -7,6 +7,7 @@ public final class ImageTest {
         noSuchOnes();
         keepsAll();
         keepsTwo();
+        keepsWhatWasClosed();
         Check.finish();
     }
 
@@ -64,6 +65,21 @@ public final class ImageTest {
         Check.due("as kept", x.now(4), 3);
         Check.due("no names of the other market", Check.ledger(x, "z buys e;", 0), -2);
         Check.due("fault", x.fault(), 3);
+    }
+
+    private static void keepsWhatWasClosed() {
+        EndingMarket x = Check.of("kind k;man m 9;thing t m k 5;ending e m 1 k 3;ending f m 1 k 4;false e 1;");
+        x.put(0, 0, 0);
+        x.image(0);
+        x.undo();
+        x.put(0, 1, 0);
+        x.put(0, 0, 0);
+        Check.due("restore", x.restore(0), true);
+        x.days(1);
+        Check.due("3 were closed", x.open(0, 0), 5);
+        Check.due("undo", x.undo(), 0);
+        x.days(1);
+        Check.due("3 were closed", x.open(0, 0), 5);
     }
 
     private static void keepsTwo() {
