@@ -1722,21 +1722,25 @@ public final class EndingMarket {
             return coin;
         }
 
+        private int closedBy(int set, int k) {
+            int sum = 0;
+            for (int e = 0; e < facts.endings; e++) {
+                if (isIn(set, e)) {
+                    sum += facts.closed(e, k);
+                }
+            }
+            return sum;
+        }
+
         private void addUp(int set) {
             for (int k = 0; k < MOST_KINDS; k++) {
-                sums[k] = 0;
-                for (int e = 0; e < facts.endings; e++) {
-                    if (isIn(set, e)) {
-                        sums[k] += facts.closed(e, k);
-                    }
-                }
+                sums[k] = closedBy(set, k);
             }
         }
 
         private boolean closesAllLeft(int set) {
-            addUp(set);
             for (int k = 0; k < MOST_KINDS; k++) {
-                if (sums[k] < left[k]) {
+                if (closedBy(set, k) < left[k]) {
                     return false;
                 }
             }
@@ -1859,9 +1863,8 @@ public final class EndingMarket {
         }
 
         private boolean leavesLastPage() {
-            addUp(pagesPut);
             for (int k = 0; k < MOST_KINDS; k++) {
-                if (Math.max(0, left[k] - sums[k]) != lastPage[k]) {
+                if (Math.max(0, left[k] - closedBy(pagesPut, k)) != lastPage[k]) {
                     return false;
                 }
             }
