@@ -1234,8 +1234,12 @@ public final class EndingMarket {
             return coin[m] < price[e] ? 3 : 0;
         }
 
-        /** Only where whyNotBuy tells nothing. */
-        void sell(int m, int e) {
+        /** Sells it to him, if nothing is against it; answers what is. */
+        int sell(int m, int e) {
+            int why = whyNotBuy(m, e);
+            if (why != 0) {
+                return why;
+            }
             int seller = holder[e];
             if (facts.isMan(seller)) {
                 coin[seller] += price[e];
@@ -1244,6 +1248,7 @@ public final class EndingMarket {
             holder[e] = m;
             bought[m]++;
             sold[e]++;
+            return 0;
         }
 
         /** NONE: there are no such ones. */
@@ -1260,8 +1265,12 @@ public final class EndingMarket {
             return suits(e, t) ? 0 : 3;
         }
 
-        /** Only where whyNotPut tells nothing. */
-        void lay(int m, int e, int t) {
+        /** Puts it there for him, if nothing is against it; answers what is. */
+        int lay(int m, int e, int t) {
+            int why = whyNotPut(m, e, t);
+            if (why != 0) {
+                return why;
+            }
             for (int k = 0; k < facts.kinds; k++) {
                 int less = Math.min(facts.closed(e, k), amount(t, k));
                 shut[e * MOST_KINDS + k] = less;
@@ -1271,6 +1280,7 @@ public final class EndingMarket {
             place[e] = t;
             putDay[e] = day;
             puts[m]++;
+            return 0;
         }
 
         void passDays(int n) {
@@ -1294,7 +1304,7 @@ public final class EndingMarket {
         }
 
         private boolean isWaiting(int e) {
-            return facts.falseDays[e] > 0 && isPut(e) && wentOn[e] == 0;
+            return isPut(e) && facts.falseDays[e] > 0 && wentOn[e] == 0;
         }
 
         /** The day at whose end a false ending that was put goes on. */
@@ -1603,24 +1613,11 @@ public final class EndingMarket {
                 trial.passDays(going[i]);
                 return 0;
             }
-            return deed[i] == BUYS ? liveBuying(trial, i) : livePutting(trial, i);
-        }
-
-        private int liveBuying(Affairs trial, int i) {
-            int reason = trial.whyNotBuy(man[i], ending[i]);
-            if (reason == 0) {
-                trial.sell(man[i], ending[i]);
+            if (deed[i] == BUYS) {
+                return trial.sell(man[i], ending[i]);
             }
-            return reason;
-        }
-
-        private int livePutting(Affairs trial, int i) {
-            int reason = trial.whyNotPut(man[i], ending[i], thing[i]);
-            if (reason != 0) {
-                return AS_FOR_PUTTING + reason;
-            }
-            trial.lay(man[i], ending[i], thing[i]);
-            return 0;
+            int reason = trial.lay(man[i], ending[i], thing[i]);
+            return reason == 0 ? 0 : AS_FOR_PUTTING + reason;
         }
 
         int verdict(int what) {
@@ -2116,16 +2113,10 @@ public final class EndingMarket {
         private void act(Affairs affairs, int m) {
             int deed = draw(3);
             if (deed == 0) {
-                int e = draw(affairs.facts.endings);
-                if (affairs.whyNotBuy(m, e) == 0) {
-                    affairs.sell(m, e);
-                }
+                affairs.sell(m, draw(affairs.facts.endings));
             } else if (deed == 1) {
                 int e = draw(affairs.facts.endings);
-                int t = draw(affairs.facts.things);
-                if (affairs.whyNotPut(m, e, t) == 0) {
-                    affairs.lay(m, e, t);
-                }
+                affairs.lay(m, e, draw(affairs.facts.things));
             }
         }
     }

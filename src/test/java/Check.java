@@ -2,8 +2,10 @@ import java.util.NoSuchElementException;
 
 /** What the tests share: counting wrong answers, and feeding texts. */
 final class Check {
+    private static final int MOST_TOLD = 50;
     private static int wrong = 0;
     private static int asked = 0;
+    private static String about = "";
 
     private Check() {
     }
@@ -12,8 +14,23 @@ final class Check {
         asked++;
         if (got != want) {
             wrong++;
-            System.out.println(call + " answered " + got + ", due is " + want);
+            tell(about + call + " answered " + got + ", due is " + want);
         }
+    }
+
+    private static void tell(String line) {
+        if (wrong <= MOST_TOLD) {
+            System.out.println(line);
+        }
+    }
+
+    /** What stands ahead of each wrong answer that is printed from now on. */
+    static void about(String what) {
+        about = what;
+    }
+
+    static int asked() {
+        return asked;
     }
 
     static void due(String call, boolean got, boolean want) {

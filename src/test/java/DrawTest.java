@@ -48,14 +48,18 @@ public final class DrawTest {
     /** What is drawn, done by buy, put and days. */
     private static void live(EndingMarket z, int n, int seed) {
         x = seed;
+        // Asked for once: an object is used for 512 calls at most.
+        int men = z.count(1);
+        int things = z.count(2);
+        int endings = z.count(3);
         for (int i = 0; i < n; i++) {
-            for (int m = 0; m < z.count(1); m++) {
+            for (int m = 0; m < men; m++) {
                 int deed = draw(3);
                 if (deed == 0) {
-                    z.buy(m, draw(z.count(3)));
+                    z.buy(m, draw(endings));
                 } else if (deed == 1) {
-                    int e = draw(z.count(3));
-                    z.put(m, e, draw(z.count(2)));
+                    int e = draw(endings);
+                    z.put(m, e, draw(things));
                 }
             }
             z.days(1);
