@@ -22,8 +22,10 @@ final class Bounds {
         for (Method test : testsOf(tests)) {
             Says says = test.getAnnotation(Says.class);
             String name = tests.getSimpleName() + "." + test.getName();
-            boolean stands = parts.getOrDefault(says.at(), "").contains(says.quote());
-            Check.due(name + " quotes what stands under " + says.at(), stands, true);
+            if (!parts.isEmpty()) {
+                boolean stands = parts.getOrDefault(says.at(), "").contains(says.quote());
+                Check.due(name + " quotes what stands under " + says.at(), stands, true);
+            }
             runOne(test, says, name);
         }
         Check.finish();
@@ -56,7 +58,10 @@ final class Bounds {
         return all;
     }
 
-    /** The document by its headings, all white space in it one blank, without the lines that only frame it. */
+    /**
+     * The document by its headings, all white space in it one blank, without the lines that only frame it.
+     * Empty where there is no document: the tests hold without it, and only their quotes can't be compared.
+     */
     static Map<String, String> parts() {
         Map<String, StringBuilder> parts = new LinkedHashMap<>();
         StringBuilder part = new StringBuilder();
@@ -79,7 +84,7 @@ final class Bounds {
         try {
             return Files.readAllLines(Paths.get(DOC), StandardCharsets.UTF_8);
         } catch (IOException e) {
-            System.out.println(DOC + " can't be read: " + e);
+            System.out.println(DOC + " can't be read, so no quote is compared: " + e);
             return new ArrayList<>();
         }
     }

@@ -377,6 +377,9 @@ public final class LastPromisesTest {
         for (int k = -2; k < 4; k++) {
             Check.due("no sentence", x.said(k), -1);
         }
+        Check.due("no sentence in a new object", new EndingMarket().said(-1), -1);
+        Check.due("nor there with a fault", Check.sentence(x, "of x"), -4);
+        Check.due("no sentence", x.said(-1), -1);
         Check.sentence(x, "of m");
         Check.due("a third of two", x.said(2), -1);
         for (int n : NO_NUMBERS) {
