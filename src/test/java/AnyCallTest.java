@@ -16,23 +16,38 @@ public final class AnyCallTest {
         "am buys be;am puts ae at;day 60;", "m puts e t;day 1;", "day 60;day 60;day 60;", "has a or of am and not fits ae",
         "((((((((ended", "pages > 0 or open < 9", "number = 7", "\0\0\0\0\0\0\1\2\3", "\0\0", "ended"};
 
+    private static final int MOST_CALLS = 512;
+    private static final int MOST_CALLS_AT_ONCE = 60;
+
     private final Random random;
     private final EndingMarket x = new EndingMarket();
     private final int[] n = new int[5];
+    private int calls = 0;
 
     private AnyCallTest(int run) {
         random = new Random(run);
     }
 
     public static void main(String[] args) {
-        for (int run = 0; run < 300; run++) {
+        for (int run = 0; run < 600; run++) {
             AnyCallTest test = new AnyCallTest(run);
-            Check.due("market", Check.market(test.x, run % 3 == 0 ? "" : FULL), run % 3 == 0 ? 0 : 35);
-            for (int call = 0; call < 512; call++) {
+            Check.due("market", test.begin(run % 3 == 0 ? "" : FULL), run % 3 == 0 ? 0 : 35);
+            while (test.calls + MOST_CALLS_AT_ONCE <= MOST_CALLS) {
                 test.call(test.random.nextInt(43), run);
             }
         }
         Check.finish();
+    }
+
+    private int begin(String text) {
+        feed(text);
+        calls++;
+        return x.market();
+    }
+
+    private void feed(String text) {
+        Check.feed(x, text);
+        calls += (text.length() + 19) / 20 + 2;
     }
 
     private int any() {
@@ -44,6 +59,7 @@ public final class AnyCallTest {
         for (int i = 0; i < 5; i++) {
             n[i] = any();
         }
+        calls++;
         try {
             if (which < 21) {
                 first(which);
@@ -51,6 +67,7 @@ public final class AnyCallTest {
                 second(which);
             }
         } catch (NoSuchElementException e) {
+            calls++;
             boolean wrong = which == 4 && x.count(2) > n[0] && n[0] >= 0 && n[1] >= 0 && n[1] <= 5
                     || which == 6 && x.count(3) > n[0] && n[0] >= 0 && n[1] >= 0 && n[1] <= 6
                     || which != 4 && which != 6;
@@ -153,7 +170,7 @@ public final class AnyCallTest {
                 if (random.nextInt(4) > 0) {
                     x.end(0);
                 }
-                Check.feed(x, TEXTS[random.nextInt(TEXTS.length)]);
+                feed(TEXTS[random.nextInt(TEXTS.length)]);
                 return 0;
         }
     }

@@ -5,6 +5,8 @@ import java.lang.reflect.Modifier;
 import java.util.Arrays;
 import java.util.Set;
 import java.util.TreeSet;
+import java.util.regex.Matcher;
+import java.util.regex.Pattern;
 
 /** The face of the document, and nothing else that can be seen from outside. */
 public final class FaceTest {
@@ -53,7 +55,25 @@ public final class FaceTest {
             }
         }
         throwsAreTold();
+        documentTellsTheSame(due);
         Check.finish();
+    }
+
+    private static void documentTellsTheSame(Set<String> due) {
+        String text = Bounds.parts().getOrDefault("The public face", "");
+        if (text.isEmpty()) {
+            return;
+        }
+        Set<String> told = new TreeSet<>();
+        Matcher method = Pattern.compile("public (int|boolean) ([a-z]+)\\(([^)]*)\\)( throws \\w+)?;").matcher(text);
+        while (method.find()) {
+            String types = method.group(3).replaceAll(" [a-z]+(,|$)", "$1").replace(" ", "");
+            told.add(method.group(1) + " " + method.group(2) + "(" + types + ")");
+            boolean throwing = method.group(2).equals("thing") || method.group(2).equals("ending");
+            Check.due("the document's throws of " + method.group(2), method.group(4) != null, throwing);
+        }
+        Check.due("the document's methods " + told, told.equals(due), true);
+        Check.due("NONE", text.contains("public static final int NONE = " + EndingMarket.NONE + ";"), true);
     }
 
     private static void throwsAreTold() {
