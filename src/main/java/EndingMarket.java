@@ -1920,7 +1920,7 @@ public final class EndingMarket {
 
         private int leastRest(int used, int turn) {
             int least = NONE;
-            int free = may[turn] & ~used;
+            int free = freeFor(used, turn);
             for (int e = 0; e < facts.endings; e++) {
                 if (isIn(free, e)) {
                     int coin = coinWith(used, e);
@@ -1932,8 +1932,17 @@ public final class EndingMarket {
             return least;
         }
 
+        /** The endings that would do for the thing whose turn it is and are not given yet. */
+        private int freeFor(int used, int turn) {
+            return turn >= 0 && turn < needs && turn < MOST_THINGS ? may[turn] & ~used : 0;
+        }
+
+        private int restBehind(int used) {
+            return used >= 0 && used < rest.length ? rest[used] : NONE;
+        }
+
         private int coinWith(int used, int e) {
-            int others = rest[used | 1 << e];
+            int others = restBehind(used | 1 << e);
             return others == NONE ? NONE : others + affairs.price[e];
         }
 
@@ -1953,9 +1962,9 @@ public final class EndingMarket {
         }
 
         private int firstBest(int used, int turn) {
-            int free = may[turn] & ~used;
+            int free = freeFor(used, turn);
             for (int e = 0; e < facts.endings; e++) {
-                if (isIn(free, e) && coinWith(used, e) == rest[used]) {
+                if (isIn(free, e) && coinWith(used, e) == restBehind(used)) {
                     return e;
                 }
             }
@@ -2054,10 +2063,14 @@ public final class EndingMarket {
             for (int m = 0; m < MOST_MEN; m++) {
                 if (isIn(left, m) && standsInRing(m)) {
                     going |= 1 << m;
-                    won[m] = brought[pointsAt[m]];
+                    won[m] = broughtBy(pointsAt[m]);
                 }
             }
             left &= ~going;
+        }
+
+        private int broughtBy(int m) {
+            return m >= 0 && m < MOST_MEN ? brought[m] : NONE;
         }
 
         private boolean standsInRing(int m) {
